@@ -21,9 +21,10 @@ public final class MappingMoves {
 
     private static final int PLAIN = 0, RIGID = 1, SOFT = 2;
 
+    private static final int MOST_RULE = 262143;
     private static final int BITS_OF_DIGIT = 3;
-    private static final int DIGIT_NONE = 6, DIGIT_AS_IT_WAS = 7;
-    private static final int MOST_RULE = (1 << BITS_OF_DIGIT * FIELDS) - 1;
+    private static final int MOST_DIGIT = 7;
+    private static final int DIGIT_FOR_NONE = 6;
 
     private static final int CAN_NOT_TURN = -20;
     private static final int FAULT_RAISED = -30;
@@ -145,7 +146,7 @@ public final class MappingMoves {
         if (column.kind != kind) {
             return CAST;
         }
-        return column.isLetGo() ? GONE : column.total();
+        return column.isGone() ? GONE : column.total();
     }
 
     public int turn(int place, int kind) {
@@ -159,7 +160,7 @@ public final class MappingMoves {
         if (column.isShelf()) {
             return OTHER;
         }
-        if (column.isLetGo()) {
+        if (column.isGone()) {
             return GONE;
         }
         int stop = column.firstNotIn(kind);
@@ -276,7 +277,7 @@ public final class MappingMoves {
         int count = 0;
         for (int field = 0; field < FIELDS; field++) {
             Column column = columns[FIELDS * b + field];
-            moveByDigit(column, rule >> BITS_OF_DIGIT * field & DIGIT_AS_IT_WAS);
+            moveByDigit(column, (rule >> (BITS_OF_DIGIT * field)) & MOST_DIGIT);
             count += column.isNone() ? 0 : 1;
         }
         return count;
@@ -339,7 +340,7 @@ public final class MappingMoves {
         if (column.isShelf() != ofShelf) {
             return OTHER;
         }
-        if (column.isLetGo()) {
+        if (column.isGone()) {
             return GONE;
         }
         return column.hasCell(i) ? FREE : OUT;
@@ -372,10 +373,11 @@ public final class MappingMoves {
         return n;
     }
 
+    /** The one digit that is left, 7, leaves the column as it was. */
     private void moveByDigit(Column column, int digit) {
         if (digit >= 0 && digit < FIELDS) {
             column.becomeLike(aside[digit]);
-        } else if (digit == DIGIT_NONE) {
+        } else if (digit == DIGIT_FOR_NONE) {
             column.end();
         }
     }
@@ -406,10 +408,11 @@ public final class MappingMoves {
 
     /** What a place has. Its callers look at a cell's number first; the rows are as long as a column can be. */
     private static final class Column {
-        private static final int LET_GO = -1;
+        private static final int NO_CELLS = -1;
 
         private int kind = NONE;
-        private int cells = LET_GO;
+        /** How many; NO_CELLS where it was let go, and where there is no column. */
+        private int cells = NO_CELLS;
         /** The cells of bytes to longs; on a shelf the parts' numbers, NONE where it is empty. */
         private final long[] wholes = new long[MOST_CELLS];
         /** The cells of floats and doubles: a double tells every float just as it is. */
@@ -419,12 +422,9 @@ public final class MappingMoves {
             return kind == NONE;
         }
 
-        boolean isLetGo() {
-            return cells == LET_GO;
-        }
-
+        /** There is none, or it was let go. */
         boolean isGone() {
-            return isNone() || isLetGo();
+            return cells == NO_CELLS;
         }
 
         boolean isShelf() {
@@ -465,12 +465,12 @@ public final class MappingMoves {
         }
 
         void letGo() {
-            cells = LET_GO;
+            cells = NO_CELLS;
         }
 
         void end() {
             kind = NONE;
-            cells = LET_GO;
+            cells = NO_CELLS;
         }
 
         int heldPart(int i) {

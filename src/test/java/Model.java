@@ -129,6 +129,11 @@ final class Model {
         }
     }
 
+    int cellsAt(int place) {
+        Column c = column(place);
+        return c == null || c.cells == null ? 0 : Array.getLength(c.cells);
+    }
+
     private static void bad(boolean it) {
         if (it) {
             throw new Raised(-1);

@@ -124,6 +124,10 @@ public final class MovesTest {
         Due.is(x.copy(0, 0, 1, 0, 0), 0);
         Due.is(x.copy(0, 0, 2, 0, 1), STORE);
         Due.is(x.copy(2, 1, 1, 0, 1), STORE);
+        fill(x, 0, 7, 1, 1, 1, 1, 1);
+        fill(x, 1, 8, 3, 3, 3, 3, 3);
+        Due.is(x.copy(0, 1, 1, 2, 2), 2);
+        holds(x, 1, 3, 3, 1, 1, 3);
     }
 
     private static void copyInTheWay() {
@@ -319,6 +323,9 @@ public final class MovesTest {
             x.make(1, kind, 0);
             x.make(0, kind, 0);
             Due.is(x.like(0, 1), 1);
+            x.make(0, kind, 2);
+            fill(x, 1, kind, 0, 0);
+            Due.is(x.like(0, 1), 1);
         }
     }
 
@@ -371,6 +378,11 @@ public final class MovesTest {
         Due.is(x.like(0, 1), GONE);
         Due.is(x.like(1, 0), GONE);
         Due.is(x.like(1, 1), GONE);
+        x.make(22, 7, 3);
+        x.make(23, 7, 3);
+        Due.is(x.like(22, 23), 1);
+        Due.is(x.like(0, 23), 0);
+        Due.is(x.like(23, 0), 0);
     }
 
     private static void told() {

@@ -132,6 +132,13 @@ public final class NumbersTest {
         Due.is(with(6, Long.MAX_VALUE, Long.MAX_VALUE).sum(0, 6), -2);
         Due.is(with(6, Long.MIN_VALUE, 3).sum(0, 6), 3);
         Due.is(with(1).sum(0, 1), 0);
+        MappingMoves x = new MappingMoves();
+        x.make(23, 4, 40);
+        for (int i = 0; i < 40; i++) {
+            x.put(23, i, 1L << i);
+        }
+        x.put(23, 0, 8);
+        Due.is(x.sum(23, 4), 6);
     }
 
     private static void sumInTheWay() {
@@ -296,6 +303,10 @@ public final class NumbersTest {
         Due.is(x.turn(0, 0), -32);
         x.put(0, 0, 128);
         Due.is(x.turn(0, 0), -20);
+        x.make(23, 6, 40);
+        Due.is(x.turn(23, 4), 1);
+        Due.is(x.turn(23, 5), 1);
+        Due.is(x.kind(23), 5);
         x.make(0, 3, 0);
         Due.is(x.turn(0, 0), 1);
         Due.is(x.kind(0), 0);
