@@ -18,12 +18,16 @@ public final class FaceTest {
     public static void main(String[] args) {
         constants();
         members();
-        aNewObject();
+        exceptions();
+        noColumns();
+        noParts();
+        nothingCopied();
         objectsAreApart();
         Due.end();
     }
 
     private static void constants() {
+        Due.sentence("The public face", "BAD = -1, FULL = -2, GONE = -11, OUT = -12, OTHER = -13, STORE = -14, CAST = -15, BELOW = -16");
         Due.is(MappingMoves.BAD, -1);
         Due.is(MappingMoves.FULL, -2);
         Due.is(MappingMoves.GONE, -11);
@@ -35,6 +39,7 @@ public final class FaceTest {
     }
 
     private static void members() {
+        Due.sentence("The public face", "public final class MappingMoves");
         Class<?> face = MappingMoves.class;
         Due.isTrue(Modifier.isPublic(face.getModifiers()) && Modifier.isFinal(face.getModifiers()), "public and final");
         TreeSet<String> methods = new TreeSet<>();
@@ -66,26 +71,56 @@ public final class FaceTest {
         Due.isTrue(Modifier.isPublic(constructors[0].getModifiers()) && constructors[0].getParameterCount() == 0, "constructor");
     }
 
-    private static void aNewObject() {
-        MappingMoves x = new MappingMoves();
-        for (int what = 0; what < 4; what++) {
-            Due.is(x.told(what), 0);
+    private static void exceptions() {
+        Due.sentence("The public face", "throws NullPointerException, ArrayIndexOutOfBoundsException");
+        for (Method method : MappingMoves.class.getDeclaredMethods()) {
+            if (Modifier.isPublic(method.getModifiers())) {
+                String declared = Arrays.toString(method.getExceptionTypes());
+                String due = method.getName().equals("get")
+                        ? "[class java.lang.NullPointerException, class java.lang.ArrayIndexOutOfBoundsException]" : "[]";
+                Due.same(method.getName() + " throws " + declared, method.getName() + " throws " + due);
+            }
         }
-        Due.is(x.copied(), 0);
+    }
+
+    private static void noColumns() {
+        Due.sentence("Promise 1", "No COLUMNS");
+        MappingMoves x = new MappingMoves();
+        Due.is(x.told(0), 0);
+        Due.is(x.told(1), 0);
         for (int place = 0; place < 24; place++) {
             Due.is(x.kind(place), MappingMoves.GONE);
             Due.is(x.length(place), MappingMoves.GONE);
+            Due.is(x.let(place), MappingMoves.GONE);
+            Due.is(x.drop(place), 0);
+            Due.getThrows(x, place, 0, NullPointerException.class);
         }
-        Due.is(x.fault(0, 0), MappingMoves.BAD);
+    }
+
+    private static void noParts() {
+        Due.sentence("Promise 1", "no PARTS");
+        MappingMoves x = new MappingMoves();
+        Due.is(x.told(2), 0);
+        Due.is(x.told(3), 0);
+        x.make(0, 7, 1);
+        for (int part = 0; part < 40; part++) {
+            Due.is(x.fault(part, 0), MappingMoves.BAD);
+            Due.is(x.lay(0, 0, part), MappingMoves.BAD);
+        }
         Due.is(x.part(0, 0), 0);
     }
 
+    private static void nothingCopied() {
+        Due.sentence("Promise 1", "A new object");
+        Due.is(new MappingMoves().copied(), 0);
+    }
+
     private static void objectsAreApart() {
-        MappingMoves x = new MappingMoves();
+        Due.sentence("Promise 1", "No COLUMNS, no PARTS");
+        MappingMoves x = Scene.scene();
         MappingMoves y = new MappingMoves();
-        x.make(0, 3, 2);
-        x.part(0, 1);
-        Due.is(y.told(0), 0);
-        Due.is(y.told(2), 0);
+        MappingMoves z = Scene.scene();
+        Due.same(Scene.everything(y), Scene.everything(new MappingMoves()));
+        Due.same(Scene.everything(x), Scene.everything(z));
     }
 }
