@@ -585,7 +585,7 @@ public final class MovesTest {
     // ---- like
 
     private static void like() {
-        Due.sentence("Promise 20", "Whether two PLACES have COLUMNS of one KIND with the same CELLS");
+        Due.sentence("Promise 20", "Whether two PLACES have COLUMNS of one KIND with the same CELLS (the numbers themselves; PARTS): 1, 0");
         for (int kind = 0; kind < 7; kind++) {
             MappingMoves x = new MappingMoves();
             Scene.fill(x, 0, kind, 1, 2, 3);

@@ -19,6 +19,7 @@ public final class NumbersTest {
         getGone();
         getOut();
         getNoPlace();
+        getThrowsByItself();
         sum();
         sumAsTold();
         sumRunsOver();
@@ -178,6 +179,23 @@ public final class NumbersTest {
             Scene.refusedGet(place, 0, OUTSIDE);
             Scene.refusedGet(place, -1, OUTSIDE);
             Due.getThrows(new MappingMoves(), place, 0, OUTSIDE);
+        }
+    }
+
+    /** An exception of the machine's own has a text (an index, a name); the class throws its own without one. */
+    private static void getThrowsByItself() {
+        Due.sentence("Promise 8", "throws NullPointerException, ArrayIndexOutOfBoundsException");
+        for (int place : new int[] {-1, 24, Scene.LEAST, Scene.MOST, Scene.NOTHING, Scene.GONE_INTS, Scene.GONE_SHELF, Scene.ANY,
+            Scene.NO_CELLS, Scene.NO_SHELF_CELLS}) {
+            for (int i : new int[] {-1, 1, 40, Scene.LEAST, Scene.MOST}) {
+                String text = "nothing thrown";
+                try {
+                    Scene.scene().get(place, i);
+                } catch (NullPointerException | ArrayIndexOutOfBoundsException e) {
+                    text = e.getMessage();
+                }
+                Due.isTrue(text == null, "get(" + place + ", " + i + "): " + text);
+            }
         }
     }
 
